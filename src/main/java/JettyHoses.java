@@ -122,7 +122,14 @@ public final class JettyHoses {
             return BAD_TEXT;
         }
         keepPresent();
-        int done = doOrders();
+        int done = 0;
+        // Without a fault, each order ends at a ';' or at the end of the text.
+        for (pad.at = 0; pad.at < pad.length; pad.at++) {
+            pad.readOrder();
+            if (!isError(doOrder())) {
+                done++;
+            }
+        }
         pad.length = 0;
         return recorded(done);
     }
@@ -161,9 +168,9 @@ public final class JettyHoses {
         if (now.waiting == 0) {
             return NOT_POSSIBLE;
         }
-        Tanker first = now.tankers[BERTH + 1];
+        int draught = now.tankers[BERTH + 1].draught();
         for (int hours = 0; hours <= TIDE_HOURS; hours++) {
-            if (now.floatsAt(first, now.hour + hours)) {
+            if (now.floatsAt(draught, now.hour + hours)) {
                 return hours;
             }
         }
@@ -320,20 +327,7 @@ public final class JettyHoses {
         undoable = HISTORY - 1;
     }
 
-    // ---- the orders of the pad
-
-    /** Only for a pad without a fault: each order then ends at a ';' or at the end of the text. */
-    private int doOrders() {
-        int done = 0;
-        for (pad.at = 0; pad.at < pad.length; pad.at++) {
-            pad.readOrder();
-            if (!isError(doOrder())) {
-                done++;
-            }
-        }
-        return done;
-    }
-
+    /** Does the order that the pad read last, without a record of its own. */
     private int doOrder() {
         switch (pad.order) {
             case '+': return now.letArrive(pad.units[0], pad.units[1], pad.units[2], pad.units[3]);
@@ -463,22 +457,18 @@ public final class JettyHoses {
             demurrage = other.demurrage;
         }
 
-        // ---- the tide, and tankers by it
+        // ---- the tide, and a draught by it
 
         int tideAt(int anHour) {
             return settings[AMPLITUDE] * TIDE_TENTHS[Math.floorMod(anHour, TIDE_HOURS)] / 10;
         }
 
-        int depthAt(int anHour) {
-            return settings[DEPTH] + tideAt(anHour);
+        int heightAt(int draught, int anHour) {
+            return HEIGHT + tideAt(anHour) - draught;
         }
 
-        int heightAt(Tanker tanker, int anHour) {
-            return HEIGHT + tideAt(anHour) - tanker.draught();
-        }
-
-        boolean floatsAt(Tanker tanker, int anHour) {
-            return depthAt(anHour) >= tanker.draught() + settings[KEEL];
+        boolean floatsAt(int draught, int anHour) {
+            return settings[DEPTH] + tideAt(anHour) >= draught + settings[KEEL];
         }
 
         boolean isTankerAt(int place) {
@@ -521,7 +511,7 @@ public final class JettyHoses {
         }
 
         int letBerth() {
-            if (waiting == 0 || isBerthTaken || !floatsAt(tankers[BERTH + 1], hour)) {
+            if (waiting == 0 || isBerthTaken || !floatsAt(tankers[BERTH + 1].draught(), hour)) {
                 return NOT_POSSIBLE;
             }
             Tanker unused = tankers[BERTH];
@@ -535,7 +525,7 @@ public final class JettyHoses {
         }
 
         int letLeave() {
-            if (!isBerthTaken || !floatsAt(tankers[BERTH], hour) || connectedHoses() > 0) {
+            if (!isBerthTaken || !floatsAt(tankers[BERTH].draught(), hour) || connectedHoses() > 0) {
                 return NOT_POSSIBLE;
             }
             isBerthTaken = false;
@@ -562,7 +552,7 @@ public final class JettyHoses {
             if (!isBerthTaken || hose.isBurst || hose.isConnected()) {
                 return NOT_POSSIBLE;
             }
-            if (heightAt(tankers[BERTH], hour) > hose.reach) {
+            if (heightAt(tankers[BERTH].draught(), hour) > hose.reach) {
                 return NOT_POSSIBLE;
             }
             hose.connected = grade;
@@ -679,7 +669,7 @@ public final class JettyHoses {
             for (int i = 0; i < HOSES; i++) {
                 Hose hose = hoses[i];
                 // Anew for each hose: what one spills lifts the tanker for the next.
-                int height = heightAt(tankers[BERTH], hour);
+                int height = heightAt(tankers[BERTH].draught(), hour);
                 if (!hose.isConnected() || height <= hose.reach) {
                     continue;
                 }
@@ -708,7 +698,7 @@ public final class JettyHoses {
         }
 
         int moveUnits() {
-            if (!isBerthTaken || !isBoomLaid || !floatsAt(tankers[BERTH], hour)) {
+            if (!isBerthTaken || !isBoomLaid || !floatsAt(tankers[BERTH].draught(), hour)) {
                 return 0;
             }
             int units = 0;
@@ -796,8 +786,8 @@ public final class JettyHoses {
             Tanker tanker = tankers[place];
             switch (what) {
                 case 4: return tanker.draught();
-                case 5: return heightAt(tanker, hour);
-                case 6: return floatsAt(tanker, hour) ? 1 : 0;
+                case 5: return heightAt(tanker.draught(), hour);
+                case 6: return floatsAt(tanker.draught(), hour) ? 1 : 0;
                 case 7: return hour - tanker.came;
                 default: return tanker.units[what];
             }
@@ -839,7 +829,7 @@ public final class JettyHoses {
             switch (what) {
                 case 6: return hour;
                 case 7: return tideAt(hour);
-                case 8: return depthAt(hour);
+                case 8: return settings[DEPTH] + tideAt(hour);
                 case 9: return waiting;
                 case 10: return isBerthTaken ? 1 : 0;
                 case 11: return connectedHoses();
@@ -913,7 +903,7 @@ public final class JettyHoses {
             return length;
         }
 
-        /** Reads one order; false if it has a fault. */
+        /** Reads one order, from left to right, and so never moves back; false if it has a fault. */
         boolean readOrder() {
             order = next();
             if (order == '+') {

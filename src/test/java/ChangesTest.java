@@ -10,6 +10,7 @@ public final class ChangesTest {
         arriving();
         arrivingWrongly();
         berthing();
+        berthingWhileMoreCome();
         leaving();
         reaching();
         connecting();
@@ -138,6 +139,25 @@ public final class ChangesTest {
         Check.due("4: 110 is too little", x.berth(), NOT_POSSIBLE);
         x.pass(1);
         Check.due("4: with the tide 126", x.berth(), 1600);
+    }
+
+    /** More tankers than there are places, so that each place is used again. */
+    private static void berthingWhileMoreCome() {
+        JettyHoses x = new JettyHoses();
+        x.arrive(1, 0, 0, 0);
+        x.berth();
+        for (int i = 2; i <= 6; i++) {
+            x.arrive(i, 2 * i, 0, 0);
+        }
+        for (int first = 1; first <= 12; first++) {
+            Check.due("4: five wait", x.count(9), 5);
+            for (int place = 0; place < 6; place++) {
+                Check.due("4: tanker(" + place + ", 0) behind " + first, x.tanker(place, 0), first + place);
+            }
+            x.leave();
+            x.berth();
+            x.arrive(first + 6, 2 * first, 0, 0);
+        }
     }
 
     private static void leaving() {

@@ -53,12 +53,13 @@ public final class HistoryTest {
             case 10: return x.draw(2, 3);
             case 11: return x.pass(30);
             case 12: Check.write(x, ".5;+d9"); return x.run();
+            case 13: return x.pass(3);
             default: return x.restore(1);
         }
     }
 
     private static void undoingEachChange() {
-        for (int kind = 0; kind < 14; kind++) {
+        for (int kind = 0; kind < 15; kind++) {
             JettyHoses x = worked();
             x.save(1);
             x.pass(1);
@@ -67,6 +68,11 @@ public final class HistoryTest {
             }
             if (kind == 6) {
                 x.leave();
+            }
+            if (kind == 13) {
+                // Hose 2, in which c was last, spoils d in the hours that are undone, and hose 0 bursts.
+                x.connect(2, 3);
+                x.reach(0, 20);
             }
             int[] before = Check.picture(x);
             Check.due("28: change " + kind + " is no error", Check.isError(change(x, kind)) ? 1 : 0, 0);
@@ -82,6 +88,7 @@ public final class HistoryTest {
             x.set(JettyHoses.PRICE, 10 + i);
             Check.due("28: changes behind " + i, x.count(19), Math.min(i, 6));
         }
+        Check.due("28: an error in between", x.set(JettyHoses.PRICE, 0), BAD_VALUE);
         for (int i = 8; i >= 3; i--) {
             Check.due("28: undo() back to " + i, x.undo(), i - 3);
             Check.due("28: the price of " + i, x.count(5), 10 + i);

@@ -1,9 +1,12 @@
 import java.util.Arrays;
 import java.util.Random;
+import java.util.regex.Matcher;
+import java.util.regex.Pattern;
 
 /**
  * Random calls by fixed seeds. An hour is reckoned a second time from what the looks tell; each what-if is held against the
- * hours that then come; errors must change nothing, and undo must bring back what was.
+ * hours that then come; errors must change nothing, and undo must bring back what was. Faults of random texts are held
+ * against a regular expression, and orders that are run against the calls for which they stand.
  *
  * <p>The looks are many, so that an object gets more than the 512 calls of the document: this program does not count them.
  */
@@ -15,7 +18,9 @@ public final class RandomTest {
     public static void main(String[] args) {
         for (int run = 0; run < RUNS; run++) {
             randomRun(run, new Random(1000 + run));
+            randomOrders(run, new Random(5000 + run));
         }
+        randomTexts(new Random(9000));
         Check.end("RandomTest");
     }
 
@@ -52,6 +57,109 @@ public final class RandomTest {
                 history[changes++] = before;
             }
             Check.due(where + ": count(19)", x.count(19), changes);
+        }
+    }
+
+    // ---- texts
+
+    private static final String UNITS = "(?:[1-9][0-9]?|[1-3][0-9][0-9]|400)";
+    private static final String ORDER = "(?:\\+(?:a" + UNITS + "(?:b" + UNITS + ")?(?:c" + UNITS + ")?(?:d" + UNITS + ")?"
+        + "|b" + UNITS + "(?:c" + UNITS + ")?(?:d" + UNITS + ")?|c" + UNITS + "(?:d" + UNITS + ")?|d" + UNITS + ")"
+        + "|[0-3](?:=[a-d]|-|~)|\\.(?:[1-9]|[1-3][0-9]|4[0-8]))";
+    private static final Pattern TEXT = Pattern.compile(ORDER + "(?:;" + ORDER + ")*");
+
+    /** The first character with which no text goes on any more. */
+    private static int reckonFault(String text) {
+        for (int length = 1; length <= text.length(); length++) {
+            Matcher matcher = TEXT.matcher(text.substring(0, length));
+            if (!matcher.matches() && !matcher.hitEnd()) {
+                return length - 1;
+            }
+        }
+        return TEXT.matcher(text).matches() ? NONE : text.length();
+    }
+
+    private static void randomTexts(Random random) {
+        String signs = "+abcde0123456789=-~.;x";
+        for (int i = 0; i < 20000; i++) {
+            StringBuilder text = new StringBuilder(ordersText(random, 1 + random.nextInt(4)));
+            for (int spoils = random.nextInt(3); spoils > 0; spoils--) {
+                char sign = signs.charAt(random.nextInt(signs.length()));
+                int at = random.nextInt(text.length());
+                if (random.nextBoolean()) {
+                    text.setCharAt(at, sign);
+                } else {
+                    text.insert(at, sign);
+                }
+            }
+            text.setLength(Math.min(text.length(), random.nextInt(4) == 0 ? random.nextInt(60) : 60));
+            JettyHoses x = new JettyHoses();
+            Check.write(x, text.toString());
+            Check.due("fault() of " + text, x.fault(), reckonFault(text.toString()));
+        }
+    }
+
+    private static String ordersText(Random random, int orders) {
+        StringBuilder text = new StringBuilder(orderText(random));
+        for (int i = 1; i < orders; i++) {
+            text.append(';').append(orderText(random));
+        }
+        return text.toString();
+    }
+
+    private static String orderText(Random random) {
+        int hose = random.nextInt(4);
+        switch (random.nextInt(6)) {
+            case 0: return "." + (1 + random.nextInt(random.nextBoolean() ? 3 : 48));
+            case 1: return hose + "-";
+            case 2: return hose + "~";
+            case 3:
+                StringBuilder text = new StringBuilder("+");
+                for (int grade = 0; grade < 4; grade++) {
+                    if (random.nextBoolean() || grade == 3 && text.length() == 1) {
+                        text.append((char) ('a' + grade)).append(1 + random.nextInt(400));
+                    }
+                }
+                return text.toString();
+            default: return hose + "=" + (char) ('a' + random.nextInt(4));
+        }
+    }
+
+    private static void randomOrders(int run, Random random) {
+        JettyHoses x = new JettyHoses();
+        JettyHoses y = new JettyHoses();
+        for (int round = 0; round < 12; round++) {
+            String text = ordersText(random, 1 + random.nextInt(3));
+            String where = "run " + run + ", orders " + text;
+            Check.due(where, Check.write(x, text), text.length());
+            int done = 0;
+            for (String order : text.split(";")) {
+                done += Check.isError(called(y, order)) ? 0 : 1;
+            }
+            Check.due(where, x.run(), done);
+            Check.duePicture(where, x, Check.picture(y));
+            JettyHoses[] both = {x, y};
+            for (JettyHoses one : both) {
+                one.boom(true);
+                one.berth();
+            }
+        }
+    }
+
+    private static int called(JettyHoses y, String order) {
+        char sign = order.charAt(0) == '+' || order.charAt(0) == '.' ? order.charAt(0) : order.charAt(1);
+        switch (sign) {
+            case '.': return y.pass(Integer.parseInt(order.substring(1)));
+            case '-': return y.disconnect(order.charAt(0) - '0');
+            case '~': return y.flush(order.charAt(0) - '0');
+            case '=': return y.connect(order.charAt(0) - '0', "abcd".indexOf(order.charAt(2)));
+            default:
+                int[] units = new int[4];
+                Matcher matcher = Pattern.compile("([a-d])([0-9]+)").matcher(order);
+                while (matcher.find()) {
+                    units["abcd".indexOf(matcher.group(1))] = Integer.parseInt(matcher.group(2));
+                }
+                return y.arrive(units[0], units[1], units[2], units[3]);
         }
     }
 

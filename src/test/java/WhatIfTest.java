@@ -13,6 +13,7 @@ public final class WhatIfTest {
         empty();
         emptyInTwoHundredHours();
         passed();
+        passedSpoilingEachGrade();
         passedTorn();
         passedWrongly();
         least();
@@ -185,6 +186,20 @@ public final class WhatIfTest {
         Check.due("23: only what comes, not what is", x.ifPassed(1, 2), 0);
         Check.due("23: the same of costs", x.ifPassed(2, 3), 10);
         Check.due("23: the same of what is stored", x.ifPassed(2, 0), 0);
+    }
+
+    private static void passedSpoilingEachGrade() {
+        for (int grade = 0; grade < 4; grade++) {
+            JettyHoses x = jettyWith(100, 100, 100, 100);
+            x.boom(true);
+            x.connect(0, (grade + 1) % 4);
+            x.pass(1);
+            x.disconnect(0);
+            x.connect(0, grade);
+            x.set(JettyHoses.RATE, 3 + grade);
+            Check.due("23: spoilt of " + grade, x.ifPassed(2, 2), 3 + grade);
+            Check.due("23: and not into the tank", x.ifPassed(2, 0), 3 + grade);
+        }
     }
 
     private static void passedTorn() {
