@@ -13,7 +13,7 @@ import java.util.regex.Pattern;
 public final class RandomTest {
     private static final int NONE = JettyHoses.NONE, NOT_POSSIBLE = JettyHoses.NOT_POSSIBLE;
     private static final int TANKERS = 18, HOSES = TANKERS + 48, GRADES = HOSES + 24;
-    private static final int RUNS = 250, CALLS = 90;
+    private static final int RUNS = 150, CALLS = 150;
 
     public static void main(String[] args) {
         for (int run = 0; run < RUNS; run++) {
@@ -46,7 +46,7 @@ public final class RandomTest {
                 Check.due(where + ": what-ifs are undone", x.count(19), changes);
                 continue;
             }
-            int answer = randomChange(where, x, random, before);
+            int answer = run % 2 == 0 ? busyChange(where, x, random, before) : randomChange(where, x, random, before);
             if (Check.isError(answer)) {
                 Check.duePicture(where + ": an error", x, before);
             } else {
@@ -180,6 +180,32 @@ public final class RandomTest {
             case 10: return x.boom(random.nextInt(5) != 0);
             case 11: return x.draw(random.nextInt(5), random.nextInt(60));
             case 12: return passed(where, x, 1, before);
+            default: return passed(where, x, 1 + random.nextInt(9), before);
+        }
+    }
+
+    /** Changes by which tanks become full and the boom, too: much is moved and spilt, and the settings stay. */
+    private static int busyChange(String where, JettyHoses x, Random random, int[] before) {
+        int hose = random.nextInt(4);
+        if (before[3] != 40) {
+            return x.set(JettyHoses.RATE, 40);
+        }
+        if (before[0] != 150) {
+            return x.set(JettyHoses.DEPTH, 150);
+        }
+        if (before[10] == 0) {
+            return before[9] == 0 ? x.arrive(400, random.nextInt(401), random.nextInt(401), 0) : x.berth();
+        }
+        if (before[13] == 0) {
+            return x.boom(true);
+        }
+        switch (random.nextInt(7)) {
+            case 0: return before[TANKERS] == 0 && before[11] == 0 ? x.leave() : x.disconnect(hose);
+            case 1: return x.mend(hose);
+            case 2: return x.reach(hose, random.nextInt(2) == 0 ? 20 : 90);
+            case 3: return random.nextInt(3) == 0 ? x.flush(hose) : x.disconnect(hose);
+            case 4: return x.connect(hose, random.nextInt(3));
+            case 5: return x.connect(hose, 0);
             default: return passed(where, x, 1 + random.nextInt(9), before);
         }
     }
