@@ -57,6 +57,27 @@ final class Check {
         }
     }
 
+    /**
+     * Two objects must be alike in all that can be told: what there is, the history, both slots, and the pad. Undoes what
+     * can be undone and runs the pad, so that neither is of use afterwards.
+     */
+    static void dueTwins(String where, JettyHoses x, JettyHoses y) {
+        duePicture(where, x, picture(y));
+        due(where + ", length of the pad", x.count(18), y.count(18));
+        due(where + ", fault of the pad", x.fault(), y.fault());
+        due(where + ", changes to undo", x.count(19), y.count(19));
+        for (int i = y.count(19); i >= 0; i--) {
+            due(where + ", undo()", x.undo(), y.undo());
+            duePicture(where + ", undone", x, picture(y));
+        }
+        for (int slot = 0; slot < 2; slot++) {
+            due(where + ", restore(" + slot + ")", x.restore(slot), y.restore(slot));
+            duePicture(where + ", restored", x, picture(y));
+        }
+        due(where + ", run()", x.run(), y.run());
+        duePicture(where + ", run", x, picture(y));
+    }
+
     static boolean isError(int answer) {
         return answer <= JettyHoses.NO_SUCH && answer >= JettyHoses.NOT_POSSIBLE;
     }
