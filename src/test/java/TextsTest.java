@@ -3,15 +3,25 @@ public final class TextsTest {
     private static final int BAD_VALUE = JettyHoses.BAD_VALUE, BAD_TEXT = JettyHoses.BAD_TEXT, TOO_MANY = JettyHoses.TOO_MANY;
     private static final int NOT_POSSIBLE = JettyHoses.NOT_POSSIBLE, NONE = JettyHoses.NONE, NO_SUCH = JettyHoses.NO_SUCH;
 
+    private static final String SIXTY = "+a100b200c300d400;.48;.12;0=a;1=b;2=c;3=d;0-;1-;2-;3-;0~;1=a";
+
     public static void main(String[] args) {
         putting();
+        puttingOneToEight();
+        puttingToTheBrim();
         puttingWrongly();
         puttingTooMany();
         wiping();
+        wipingAFullPad();
+        wipedCharactersAreGone();
         texts();
         faults();
         faultsOfEachPrefix();
+        faultsOfEachCharacter();
+        faultsOfAFullPad();
+        faultsChangeNothing();
         running();
+        runningAFullPad();
         runningWhatIsNotPossible();
         runningAFault();
         runningIsOneChange();
@@ -38,6 +48,34 @@ public final class TextsTest {
         Check.due("25: the greatest code", x.put(126), 13);
         Check.due("25: eight of the greatest", x.put(0x7e7e7e7e7e7e7e7eL), 21);
         Check.due("25: that is no change", x.count(19), 0);
+    }
+
+    /** "1 to 8 characters": the lowest 8 bits are the last one, the next 8 bits the one before, and so on. */
+    private static void puttingOneToEight() {
+        String text = "+a1;0=b;";
+        for (int length = 1; length <= 8; length++) {
+            JettyHoses x = new JettyHoses();
+            Check.due("25: " + length + " characters", x.put(Check.packed(text.substring(0, length))), length);
+            boolean isWhole = length == 3 || length == 7;
+            Check.due("25: they stand in their order, " + length, x.fault(), isWhole ? NONE : length);
+        }
+        JettyHoses x = new JettyHoses();
+        Check.due("25: as a number", x.put(0x2b6139623831303cL), 8);
+        Check.due("25: +a9b810<, the eighth cannot stand, nor the seventh", x.fault(), 6);
+    }
+
+    /** "TOO_MANY if the pad would be longer than 60": by each length that just fits, and by one more. */
+    private static void puttingToTheBrim() {
+        for (int length = 1; length <= 8; length++) {
+            JettyHoses x = new JettyHoses();
+            Check.write(x, SIXTY.substring(0, 61 - length));
+            Check.due("25: one more than 60 by " + length, x.put(Check.packed("!!!!!!!!".substring(0, length))), TOO_MANY);
+            Check.due("25: still " + (61 - length), x.count(18), 61 - length);
+            x.wipe();
+            Check.write(x, SIXTY.substring(0, 60 - length));
+            Check.due("25: just 60 by " + length, x.put(Check.packed(SIXTY.substring(60 - length))), 60);
+            Check.due("25: all of it stands there, by " + length, x.fault(), NONE);
+        }
     }
 
     private static void puttingWrongly() {
@@ -81,16 +119,49 @@ public final class TextsTest {
         Check.due("26: two", x.count(18), 2);
     }
 
+    private static void wipingAFullPad() {
+        JettyHoses x = new JettyHoses();
+        Check.write(x, SIXTY);
+        Check.due("26: 60", x.wipe(), 60);
+        Check.due("26: none", x.count(18), 0);
+        Check.due("26: the fault of an empty pad", x.fault(), 0);
+        Check.due("26: 60 again", Check.write(x, SIXTY), 60);
+        Check.due("26: without a fault", x.fault(), NONE);
+    }
+
+    /** What was wiped, or run, does not go on behind what is put then. */
+    private static void wipedCharactersAreGone() {
+        String[] old = {"0=a", "0=a", ".12", "+a12", "+a1b2", "+a1b2", "+a1;.1", "0~;1~"};
+        String[] put = {"0=", "0", ".", "+a", "+a1b", "+", "+a1;", "0~;"};
+        for (int i = 0; i < old.length; i++) {
+            JettyHoses x = new JettyHoses();
+            Check.write(x, old[i]);
+            x.wipe();
+            Check.write(x, put[i]);
+            Check.due("26: " + put[i] + " behind " + old[i], x.fault(), put[i].length());
+            x = new JettyHoses();
+            Check.write(x, old[i]);
+            x.run();
+            Check.write(x, put[i]);
+            Check.due("14: " + put[i] + " behind " + old[i] + ", which was run", x.fault(), put[i].length());
+        }
+        JettyHoses x = new JettyHoses();
+        Check.write(x, ".12");
+        x.wipe();
+        Check.write(x, ".1");
+        Check.due("26: .1 behind .12", x.run(), 1);
+        Check.due("26: hour 1", x.count(6), 1);
+    }
+
     private static void texts() {
         String[] good = {
             "+a1", "+a400", "+d1", "+a1b2c3d4", "+a10b20c30d40", "+b399d1", "+a9;+a9",
             "0=a", "3=d", "0-", "3-", "0~", "3~", ".1", ".48", ".9", ".10", ".39",
-            "0=a;1=b;2-;3~;.5;+c7", "+a100b200c300d400;.48;.1;0=a;1=b;2=c;3=d;0-;1-;2-;3-;0~;1~;2",
+            "0=a;1=b;2-;3~;.5;+c7", SIXTY,
         };
-        for (int i = 0; i < good.length - 1; i++) {
+        for (int i = 0; i < good.length; i++) {
             Check.due("27: " + good[i], faultOf(good[i]), NONE);
         }
-        Check.due("27: 60 characters", faultOf("+a100b200c300d400;.48;.1;0=a;1=b;2=c;3=d;0-;1-;2-;3-;0~;1~"), NONE);
     }
 
     private static void faults() {
@@ -124,6 +195,79 @@ public final class TextsTest {
             String part = text.substring(0, length);
             Check.due("27: " + part, faultOf(part), ends[length] ? NONE : length);
         }
+    }
+
+    /**
+     * Each character from 33 to 126 behind each kind of beginning: "The fault is the index of the first character that cannot
+     * stand at its place when the text is read from left to right (also of a digit by which a number would be too great)".
+     */
+    private static void faultsOfEachCharacter() {
+        String start = "+.0123";
+        String digits = "0123456789";
+        String firstDigits = "123456789";
+        String[][] beginnings = {
+            {"", start}, {"+", "abcd"}, {"+a", firstDigits}, {"+b", firstDigits}, {"+c", firstDigits}, {"+d", firstDigits},
+            {"+a1", digits + "bcd;"}, {"+b1", digits + "cd;"}, {"+c1", digits + "d;"}, {"+d1", digits + ";"},
+            {"+a39", digits + "bcd;"}, {"+a40", "0bcd;"}, {"+a41", "bcd;"}, {"+a99", "bcd;"}, {"+a9", digits + "bcd;"},
+            {"+a399", "bcd;"}, {"+a400", "bcd;"}, {"+b400", "cd;"}, {"+c400", "d;"}, {"+d400", ";"}, {"+d100", ";"},
+            {"+a1b", firstDigits}, {"+a1c", firstDigits}, {"+a1d", firstDigits}, {"+a1b2", digits + "cd;"}, {"+a1c2", digits + "d;"},
+            {"+a1d2", digits + ";"}, {"+a1b2c3", digits + "d;"}, {"+a1b2c3d", firstDigits}, {"+a1b2c3d4", digits + ";"},
+            {"0", "=-~"}, {"1", "=-~"}, {"2", "=-~"}, {"3", "=-~"}, {"0=", "abcd"}, {"3=", "abcd"}, {"0=a", ";"}, {"3=d", ";"},
+            {"0-", ";"}, {"3~", ";"}, {".", firstDigits}, {".1", digits + ";"}, {".3", digits + ";"}, {".4", "012345678;"},
+            {".5", ";"}, {".9", ";"}, {".10", ";"}, {".48", ";"},
+            {"0-;", start}, {".4;", start}, {".48;", start}, {"+a1;", start}, {"+d400;", start}, {"0=a;", start}, {"0~;", start},
+            {".48;.", firstDigits}, {".48;3", "=-~"}, {"+d1;+", "abcd"}, {"+d1;+a", firstDigits},
+        };
+        for (String[] beginning : beginnings) {
+            for (char sign = 33; sign <= 126; sign++) {
+                String text = beginning[0] + sign;
+                boolean canStand = beginning[1].indexOf(sign) >= 0;
+                int fault = faultOf(text);
+                if (canStand) {
+                    Check.due("27: " + text + " can go on", fault == NONE || fault == text.length() ? 1 : 0, 1);
+                } else {
+                    Check.due("27: " + text, fault, text.length() - 1);
+                }
+            }
+        }
+    }
+
+    /** "if there is none and the text ends too early (also if it is empty), it is the length of the text": 60, at most. */
+    private static void faultsOfAFullPad() {
+        Check.due("27: an empty one", faultOf(""), 0);
+        Check.due("27: a full one", faultOf(SIXTY), NONE);
+        String start = SIXTY.replace(".12", ".1").substring(0, 55);
+        String[] early = {";2~;3", "1=a;+", ";.1;.", ";3=b;", ";.12;", ";+a1;", ";+a1b", ";+ab1", ";.481", ";.4;4", ";.4;x", ";.40x", ";0=a="};
+        int[] at = {60, 55, 60, 60, 60, 60, 60, 58, 59, 59, 59, 59, 59};
+        for (int i = 0; i < early.length; i++) {
+            Check.due("27: behind 55 others, " + early[i], faultOf(start + early[i]), at[i]);
+        }
+    }
+
+    private static void faultsChangeNothing() {
+        String[] pads = {"", "0=", "0=a", "x", SIXTY};
+        for (String pad : pads) {
+            JettyHoses x = new JettyHoses();
+            JettyHoses y = new JettyHoses();
+            Check.write(x, pad);
+            Check.write(y, pad);
+            x.fault();
+            x.fault();
+            Check.dueTwins("27: fault() of " + pad, x, y);
+        }
+    }
+
+    private static void runningAFullPad() {
+        JettyHoses x = new JettyHoses();
+        x.set(JettyHoses.DEPTH, 150);
+        x.arrive(1, 0, 0, 0);
+        x.berth();
+        Check.write(x, SIXTY);
+        // All but 0~ are done: no grade was in that hose.
+        Check.due("14: 60 characters, twelve of thirteen orders", x.run(), 12);
+        Check.due("14: hour 60", x.count(6), 60);
+        Check.due("14: 1=a", x.hose(1, 2), 0);
+        Check.due("14: the pad is empty", x.count(18), 0);
     }
 
     private static void running() {
