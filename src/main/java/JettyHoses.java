@@ -123,12 +123,14 @@ public final class JettyHoses {
         }
         keepPresent();
         int done = 0;
-        // Without a fault, each order ends at a ';' or at the end of the text.
-        for (pad.at = 0; pad.at < pad.length; pad.at++) {
+        pad.at = 0;
+        // There are no more orders than characters; without a fault, each ends at a ';' or at the end of the text.
+        for (int i = 0; i < MOST_CHARACTERS && pad.at < pad.length; i++) {
             pad.readOrder();
             if (!isError(doOrder())) {
                 done++;
             }
+            pad.at++;
         }
         pad.length = 0;
         return recorded(done);
@@ -889,7 +891,9 @@ public final class JettyHoses {
         }
 
         int firstFault() {
-            for (at = 0; at <= length; at++) {
+            at = 0;
+            // There are no more orders than characters; an empty text has one, which ends too early.
+            for (int i = 0; i <= MOST_CHARACTERS; i++) {
                 if (!readOrder()) {
                     return at;
                 }
@@ -899,6 +903,7 @@ public final class JettyHoses {
                 if (next() != ';') {
                     return at;
                 }
+                at++;
             }
             return length;
         }
