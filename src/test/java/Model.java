@@ -6,7 +6,7 @@ import java.util.regex.Matcher;
 import java.util.regex.Pattern;
 
 /**
- * The document a second time, written from its words alone and in another form than the program: lists that are copied
+ * The document a second time, in another form than the program: lists that are copied
  * whole, a pattern for texts, and each what-if by trying it out. ModelTest holds the program against it.
  */
 final class Model {
